@@ -114,6 +114,20 @@ public final class AcrossTest {
         DUE.is("told(0)", x.told(0), 41);
         DUE.is("left by the last", x.told(1), 0);
 
+        // Two of four walkers, the traces of minutes 1 and 2: nobody else's trace of minute 0.
+        SmellHowLong two = new SmellHowLong();
+        two.pass(1);
+        Due.tell(two, "aw0;");
+        two.put(0, 1);
+        two.pass(1);
+        Due.tell(two, "aw0;");
+        DUE.is("two of two", two.told(0), 41);
+        two.nose(3);
+        DUE.is("0 and 1 by 3", two.told(0), 0);
+        two.put(1, 1);
+        two.pass(2);
+        DUE.is("2 and 3 by 3", two.told(0), 1);
+
         // By halves the older comes to be as fresh: minute t against (t + m) by 2, cut.
         DUE.is("told(0)", walkerBehindStrong(2).told(0), 1);
         DUE.is("told(0)", walkerBehindStrong(40).told(0), 39);

@@ -41,6 +41,16 @@ public final class ImageTest {
                 DUE.is("seeds(2, " + z + ")", two.seeds(2, z, room), want);
             }
         }
+        SmellHowLong apart = Due.town("aw0;n9;");
+        apart.put(0, 1);
+        apart.pass(8);
+        Due.tell(apart, "ac5;");
+        apart.rain();
+        Due.tell(apart, "aw0;");
+        apart.put(2, 1);
+        for (int n = 1; n <= 30; n++) {
+            DUE.is("seeds(" + n + ", 3, 0)", apart.seeds(n, 3, 0), seededApart(n));
+        }
         DUE.is("seeds(30, 5, 0)", Due.town("aw0;").seeds(30, 5, 0), 1);
         DUE.is("nobody", new SmellHowLong().seeds(30, 5, 0), 0);
         DUE.is("seeds(0, 0, 6)", x.seeds(0, 0, 6), -1);
@@ -52,6 +62,21 @@ public final class ImageTest {
         DUE.is("nothing went by", x.count(2), 0);
         DUE.is("he stands", x.walker(0, 1), 0);
         DUE.is("no trace more", x.count(4), 1);
+    }
+
+    /** Walkers 0 (from 1) and 2 (from 1, a trace in 0), with a clean one drawn between them. */
+    private static int seededApart(int n) {
+        int z = 3;
+        int[] left = {-99, 0};
+        for (int minute = 1; minute <= n; minute++) {
+            for (int walker = 0; walker < 3; walker++) {
+                z = z * 1664525 + 1013904223;
+                if (draw(z) == 0 && walker != 1) {
+                    left[walker / 2] = minute;
+                }
+            }
+        }
+        return left[0] >= 0 && (n - left[0]) / 9 != (n - left[1]) / 9 ? 2 : 1;
     }
 
     private static void image() {
@@ -108,6 +133,14 @@ public final class ImageTest {
         x.image();
         x.on();
         DUE.is("plan", x.walker(1, 2), 3);
+        SmellHowLong again = Due.town("aw0;");
+        again.image();
+        Due.tell(again, "aw1234;");
+        again.on();
+        Due.tell(again, "al2;");
+        DUE.is("no plan of one who is no more", again.walker(1, 2), 0);
+        DUE.is("no trace of one who is no more", again.age(1, 1), -9);
+        DUE.is("traces", again.count(4), 2);
         SmellHowLong fresh = new SmellHowLong();
         DUE.is("another object has none", fresh.on(), -3);
     }

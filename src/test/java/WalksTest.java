@@ -93,8 +93,9 @@ public final class WalksTest {
         DUE.is("sure(2, 1)", x.sure(2, 1), 1);
         DUE.is("sure(2, 2)", x.sure(2, 2), 2);
         Due.rows(x, 2, 0, 1, 30, 30, 30);
-        DUE.is("walked(3)", x.walked(3), 3);
         DUE.is("sure(3, 0)", x.sure(3, 0), 7);
+        DUE.is("likeliest(2, 2)", x.likeliest(2, 2), 1);
+        DUE.is("walked(3)", x.walked(3), 3);
         DUE.is("sure(3, 1)", x.sure(3, 1), 1);
         DUE.is("sure(3, 2)", x.sure(3, 2), 4);
         DUE.is("walked(2)", x.walked(2), 1);
