@@ -472,8 +472,9 @@ public final class SmellHowLong {
             return (roofs >> room & 1) == 1;
         }
 
-        void addRoof(int room) {
-            roofs |= 1 << room;
+        /** A roof told again is none. */
+        void turnRoof(int room) {
+            roofs ^= 1 << room;
         }
 
         int pathsFrom(int room) {
@@ -484,9 +485,10 @@ public final class SmellHowLong {
             return (paths[from] >> to & 1) == 1;
         }
 
-        void addPath(int one, int other) {
-            paths[one] |= 1 << other;
-            paths[other] |= 1 << one;
+        /** A path told again, from either of its ends, is none. */
+        void turnPath(int one, int other) {
+            paths[one] ^= 1 << other;
+            paths[other] ^= 1 << one;
         }
 
         int pathsIn() {
@@ -905,7 +907,7 @@ public final class SmellHowLong {
             if (!isRoom(one) || !isRoom(other) || one == other) {
                 return false;
             }
-            town.addPath(one, other);
+            town.turnPath(one, other);
             return true;
         }
 
@@ -923,7 +925,7 @@ public final class SmellHowLong {
             if (!isRoom(digitAt(at))) {
                 return false;
             }
-            town.addRoof(digitAt(at));
+            town.turnRoof(digitAt(at));
             return true;
         }
 

@@ -188,6 +188,12 @@ final class SlowTown {
         return statements;
     }
 
+    private static <T> void tellOrTakeBack(Set<T> told, T one) {
+        if (!told.remove(one)) {
+            told.add(one);
+        }
+    }
+
     private boolean statement(String s) {
         int a = s.charAt(1) - '0';
         switch (s.charAt(0)) {
@@ -196,7 +202,7 @@ final class SlowTown {
                 if (a == b || a > 5 || b > 5) {
                     return false;
                 }
-                paths.add(Math.min(a, b) + "-" + Math.max(a, b));
+                tellOrTakeBack(paths, Math.min(a, b) + "-" + Math.max(a, b));
                 return true;
             }
             case 'w':
@@ -206,7 +212,7 @@ final class SlowTown {
                 winds[a] = s.charAt(2) - '0';
                 return true;
             case 'r':
-                roofs.add(a);
+                tellOrTakeBack(roofs, a);
                 return a <= 5;
             case 'n':
                 nose = a;

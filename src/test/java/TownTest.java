@@ -10,6 +10,8 @@ public final class TownTest {
         faultsOfStatements();
         faultsChangeNothing();
         townsAddUp();
+        pathsToldAgain();
+        roofsToldAgain();
         tracesOfThoseWhoCome();
         rooms();
         walkers();
@@ -59,7 +61,7 @@ public final class TownTest {
 
     private static void lettersOfATown() {
         SmellHowLong x = new SmellHowLong();
-        DUE.is("town", Due.tell(x, "p01;p10;p01;w03;r5;r5;n9;"), 7);
+        DUE.is("town", Due.tell(x, "p01;p10;p01;w03;r5;r5;r5;n9;"), 8);
         DUE.is("letters left", x.count(6), 0);
         DUE.is("paths", x.count(1), 1);
         DUE.is("path of 0", x.room(0, 2), 2);
@@ -182,6 +184,59 @@ public final class TownTest {
         DUE.is("more", Due.tell(x, "af2;as3;"), 2);
         DUE.is("a fifth", Due.tell(x, "n5;aw0;"), -2003);
         DUE.is("nose", x.count(3), 3);
+    }
+
+    /** The paths of rooms 0 to 2 (bits), and how many there are. */
+    private static void paths(SmellHowLong x, int of0, int of1, int of2, int all) {
+        DUE.is("room(0, 2)", x.room(0, 2), of0);
+        DUE.is("room(1, 2)", x.room(1, 2), of1);
+        DUE.is("room(2, 2)", x.room(2, 2), of2);
+        DUE.is("paths", x.count(1), all);
+    }
+
+    private static void pathsToldAgain() {
+        SmellHowLong x = new SmellHowLong();
+        DUE.is("twice in one text", Due.tell(x, "p01;p01;"), 2);
+        paths(x, 0, 0, 0, 0);
+        DUE.is("across(0, 1)", x.across(0, 1), -9);
+        DUE.is("a third time", Due.tell(x, "p01;"), 1);
+        paths(x, 2, 1, 0, 1);
+        DUE.is("across(0, 1)", x.across(0, 1), 1);
+        DUE.is("from its other end, in a later text", Due.tell(x, "p12;p10;"), 2);
+        paths(x, 0, 4, 2, 1);
+        DUE.is("with a fault nothing goes", Due.tell(x, "p12;p11;"), -2004);
+        paths(x, 0, 4, 2, 1);
+        DUE.is("with a fault of a letter neither", Due.tell(x, "p12;p"), -1005);
+        paths(x, 0, 4, 2, 1);
+        x.image();
+        DUE.is("behind an image", Due.tell(x, "p21;p02;"), 2);
+        paths(x, 4, 0, 1, 1);
+        x.on();
+        paths(x, 0, 4, 2, 1);
+
+        SmellHowLong y = Due.town("p01;aw0101;");
+        y.pass(1);
+        Due.tell(y, "p01;");
+        DUE.is("no path back for him", y.walker(0, 3), 1);
+        SmellHowLong z = Due.town("p01;p02;p01;af0;aw1;");
+        DUE.is("nor for a follower", z.walker(0, 3), 0);
+        Due.rows(z, 1, 0, 30, 30, 30, 30);
+        DUE.is("nor for anybody", z.walked(1), 0);
+    }
+
+    private static void roofsToldAgain() {
+        SmellHowLong x = Due.town("r0;r0;r5;aw0;aw5;");
+        DUE.is("room(0, 1)", x.room(0, 1), 0);
+        DUE.is("room(5, 1)", x.room(5, 1), 1);
+        DUE.is("with a fault nothing goes", Due.tell(x, "r5;r6;"), -2003);
+        DUE.is("room(5, 1)", x.room(5, 1), 1);
+        DUE.is("rain()", x.rain(), 1);
+        DUE.is("in a later text", Due.tell(x, "r5;r0;"), 2);
+        DUE.is("room(0, 1)", x.room(0, 1), 1);
+        DUE.is("room(5, 1)", x.room(5, 1), 0);
+        DUE.is("rain()", x.rain(), 1);
+        DUE.is("a third time", Due.tell(x, "r5;"), 1);
+        DUE.is("room(5, 1)", x.room(5, 1), 1);
     }
 
     private static void tracesOfThoseWhoCome() {
