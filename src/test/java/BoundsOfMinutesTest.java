@@ -352,6 +352,21 @@ public final class BoundsOfMinutesTest {
         DUE.is("the greatest of any", x.walker(2, 3), 1);
         x.wind(4, 3);
         DUE.is("a fresh one is 0 in each wind", x.walker(2, 3), 1);
+        SmellHowLong far = Due.town(around + "aw5;aw0;ab0;");
+        far.put(0, 1);
+        far.put(1, 3);
+        far.pass(1);
+        // Behind a minute 5 and 0 have traces of a minute ago, 1 and 3 fresh ones.
+        DUE.is("he went to 0, his own first", far.walker(2, 1), 0);
+        DUE.is("the least of the greatest is his own", far.walker(2, 3), 0);
+        far.wind(5, 1);
+        DUE.is("the greatest, not the freshest", far.walker(2, 3), 5);
+        far.wind(5, 0);
+        far.wind(0, 1);
+        DUE.is("the greatest, by the wind", far.walker(2, 3), 0);
+        far.put(2, 4);
+        far.wind(0, 0);
+        DUE.is("of several the least", far.walker(2, 3), 0);
     }
 
     /** "all go at once, by TRACES as they are; MINUTE is 1 more; then each leaves a TRACE, of this MINUTE". */
