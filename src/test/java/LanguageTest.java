@@ -1,27 +1,21 @@
 import java.io.IOException;
-import java.lang.reflect.Constructor;
 import java.lang.reflect.Field;
-import java.lang.reflect.Method;
 import java.lang.reflect.Modifier;
 import java.nio.charset.StandardCharsets;
 import java.nio.file.Files;
 import java.nio.file.Path;
-import java.util.Arrays;
 import java.util.Set;
 import java.util.TreeSet;
 import java.util.regex.Matcher;
 import java.util.regex.Pattern;
 
-/** The face of the class, and the rules of LANGUAGE.md that a text search can see. */
+/** The rules of LANGUAGE.md that reflection and a text search can see; its face: FaceTest. */
 public final class LanguageTest {
     private static final Due DUE = new Due("LanguageTest");
     private static final Path SOURCE = Path.of("src/main/java/SmellHowLong.java");
-    private static final String FACE = "across(2) age(2) behind(2) clear(0) count(1) covered(2) freshest(2) image(0) "
-            + "judge(0) letter(1) likeliest(2) meet(2) nose(1) on(0) pass(1) put(2) rain(0) room(2) row(1) scented(1) "
-            + "seeds(3) smelt(2) sure(2) told(1) town(0) walked(1) walker(2) wind(2)";
 
     public static void main(String[] args) throws IOException {
-        face();
+        fields(SmellHowLong.class);
         nestedClasses();
         String source = Files.readString(SOURCE, StandardCharsets.ISO_8859_1);
         DUE.is("signs from 1 to 127 alone", source.chars().filter(c -> c > 127).count(), 0);
@@ -34,44 +28,9 @@ public final class LanguageTest {
         DUE.is(rule, held ? 1 : 0, 1);
     }
 
-    private static void face() {
-        Class<?> c = SmellHowLong.class;
-        holds("public and final", Modifier.isPublic(c.getModifiers()) && Modifier.isFinal(c.getModifiers()));
-        Constructor<?>[] constructors = c.getDeclaredConstructors();
-        DUE.is("constructors", constructors.length, 1);
-        holds("public without arguments",
-                Modifier.isPublic(constructors[0].getModifiers()) && constructors[0].getParameterCount() == 0);
-        Set<String> open = new TreeSet<>();
-        Set<String> openNames = new TreeSet<>();
-        Set<String> closedNames = new TreeSet<>();
-        for (Method m : c.getDeclaredMethods()) {
-            if (Modifier.isPrivate(m.getModifiers())) {
-                closedNames.add(m.getName());
-                continue;
-            }
-            holds(m + " is public, of the object, of ints", Modifier.isPublic(m.getModifiers())
-                    && !Modifier.isStatic(m.getModifiers()) && m.getReturnType() == int.class
-                    && Arrays.stream(m.getParameterTypes()).allMatch(t -> t == int.class));
-            open.add(m.getName() + "(" + m.getParameterCount() + ")");
-            openNames.add(m.getName());
-        }
-        holds("the face: " + String.join(" ", open), String.join(" ", open).equals(FACE));
-        for (Class<?> inside : c.getDeclaredClasses()) {
-            for (Method m : inside.getDeclaredMethods()) {
-                closedNames.add(m.getName());
-            }
-        }
-        closedNames.retainAll(openNames);
-        holds("other methods with a public one's name: " + closedNames, closedNames.isEmpty());
-        fields(c);
-    }
-
     private static void nestedClasses() {
         holds("few classes", SmellHowLong.class.getDeclaredClasses().length < 12);
         for (Class<?> inside : SmellHowLong.class.getDeclaredClasses()) {
-            holds(inside + " is static", Modifier.isStatic(inside.getModifiers()));
-            holds(inside + " is closed", !Modifier.isPublic(inside.getModifiers())
-                    && !Modifier.isProtected(inside.getModifiers()));
             fields(inside);
         }
     }
